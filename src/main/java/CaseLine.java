@@ -878,6 +878,9 @@ public final class CaseLine {
 
         boolean made;
         private int x, y, a, b;
+        // The narrow side of a case. A pinwheel with an empty part at its rim is never better than
+        // cuts are, so only those are tried that leave each such part as wide as this.
+        private int narrow;
         private final int[] most = new int[ROW * ROW];
         private final int[] place = new int[NUMBERS * SQUARES];
         private int places;
@@ -892,6 +895,7 @@ public final class CaseLine {
             this.y = y;
             this.a = a;
             this.b = b;
+            narrow = Math.min(a, b);
             made = true;
             findMost();
             layCases();
@@ -949,10 +953,10 @@ public final class CaseLine {
 
         private int mostByPinwheel(int w, int h) {
             int best = 0;
-            for (int x1 = 1; x1 < w; x1++) {
-                for (int x2 = x1 + 1; x2 < w; x2++) {
-                    for (int y1 = 1; y1 < h; y1++) {
-                        for (int y2 = y1 + 1; y2 < h; y2++) {
+            for (int x1 = narrow; x1 < w - narrow; x1++) {
+                for (int x2 = x1 + 1; x2 <= w - narrow; x2++) {
+                    for (int y1 = narrow; y1 < h - narrow; y1++) {
+                        for (int y2 = y1 + 1; y2 <= h - narrow; y2++) {
                             best = Math.max(best, byPinwheel(w, h, x1, x2, y1, y2));
                         }
                     }
@@ -1032,10 +1036,10 @@ public final class CaseLine {
         }
 
         private void cutPinwheel(int left, int low, int w, int h) {
-            for (int x1 = 1; x1 < w; x1++) {
-                for (int x2 = x1 + 1; x2 < w; x2++) {
-                    for (int y1 = 1; y1 < h; y1++) {
-                        for (int y2 = y1 + 1; y2 < h; y2++) {
+            for (int x1 = narrow; x1 < w - narrow; x1++) {
+                for (int x2 = x1 + 1; x2 <= w - narrow; x2++) {
+                    for (int y1 = narrow; y1 < h - narrow; y1++) {
+                        for (int y2 = y1 + 1; y2 <= h - narrow; y2++) {
                             if (byPinwheel(w, h, x1, x2, y1, y2) == mostOf(w, h)) {
                                 putPart(left + x1, low + y1, x2 - x1, y2 - y1);
                                 putPart(left, low + y2, x2, h - y2);

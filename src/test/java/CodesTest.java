@@ -82,7 +82,15 @@ public final class CodesTest {
         x.breakUp(1, 5);
         due("none does", x.rule(1, 1), 2);
         x.breakUp(0, 29);
+        due("case 0 holds more", x.rule(0, 2), NO);
+        x.stack(0, 0);
+        fill(x, 1, 0, 1, 2);
+        x.rule(1, 2);
+        x.stack(1, 0);
+        due("pallet 0 holds more", x.rule(1, 1), NO);
+        x.breakUp(1, 0);
         x.breakUp(0, 0);
+        x.breakUp(0, 1);
         due("none does", x.rule(0, 1), 3);
     }
 
@@ -194,6 +202,12 @@ public final class CodesTest {
         due("two between", x.weigh(0, 450), NO);
         x.pack(8, 1);
         due("one of them is in another", x.weigh(0, 450), 6);
+        x.breakUp(0, 0);
+        x.breakUp(0, 1);
+        x.pack(0, 0);
+        x.pack(1, 0);
+        x.pack(3, 0);
+        due("from code 0 on", x.weigh(0, 450), 2);
         x.breakUp(0, 0);
         x.breakUp(0, 1);
         // Without units, and with one alone: nothing lies between.
@@ -403,6 +417,9 @@ public final class CodesTest {
         }
         int[] states = {0, 0, NONE, NONE, NONE};
         look(x, "at first", states);
+        x.pack(0, 6);
+        look(x, "code 0 alone", new int[] {1, 0, NONE, 0, 0});
+        x.breakUp(0, 6);
         x.pack(8, 6);
         look(x, "one", new int[] {1, 0, NONE, 8, 8});
         x.pack(11, 6);
@@ -464,6 +481,13 @@ public final class CodesTest {
         x.breakUp(1, 5);
         due("pallets of 15 no more", x.recall(15, 1), 0);
         due("cases as before", x.recall(15, 0), 1 << 29 | 1 << 4);
+        x.rule(0, 2);
+        x.breakUp(1, 1);
+        x.breakUp(0, 0);
+        x.rule(0, 2);
+        fill(x, 1, 0, 8);
+        x.stack(1, 3);
+        due("pallets of 0, by code 0 alone", x.recall(0, 1), 8);
     }
 
     private static void recallOfMany() {

@@ -195,5 +195,8 @@ public final class LayersTest {
         due("again", x.holds(), 10);
         x.layer(12, 12, 1, 1);
         due("squares", x.holds(), 0);
+        // After a full layer nothing of it is left: 2 by 1 at 1, 3, 5 of 7, the last on one alone.
+        x.layer(7, 1, 2, 1);
+        due("two of three", x.holds(), 2);
     }
 }

@@ -417,6 +417,18 @@ public final class LineTest {
             due("the first in " + (6 + i), x.about(0, 0), then[i]);
         }
         due("not confirmed", x.confirm(0), 2);
+        // One reject alone does, three ticks after it was made in tick 0.
+        x.line(2);
+        x.set(0, 1, 1);
+        x.set(0, 0, 1);
+        x.supply(1);
+        x.ticks(3);
+        due("starved yet", x.about(0, 0), STARVED);
+        x.ticks(1);
+        due("halted, though starved else", x.about(0, 0), HALTED);
+        due("one", x.confirm(0), 1);
+        x.ticks(1);
+        due("starved again", x.about(0, 0), STARVED);
     }
 
     private static void haltBeforeOthers() {

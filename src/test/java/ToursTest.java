@@ -107,6 +107,7 @@ public final class ToursTest {
         due("i -2", x.tour(63, 0, -2), BAD);
         due("i LOW", x.tour(63, 0, LOW), BAD);
         due("one alone", x.tour(32, 5, -1), 0);
+        due("the lowest alone", x.tour(1, 0, -1), 0);
         due("it is first", x.tour(32, 5, 0), 5);
         due("no second", x.tour(32, 5, 1), NONE);
         due("no sixth", x.tour(31, 0, 5), NONE);
