@@ -331,7 +331,7 @@ public final class CaseLine {
     }
 
     private static boolean isKind(int i) {
-        return within(i, 0, Tours.KINDS - 1);
+        return i >= 0 && i < Tours.KINDS;
     }
 
     /** One machine of the line, with the gap behind it. */
