@@ -240,6 +240,7 @@ public final class EdgesOfCodesTest {
         due("in none", x.code(6, 0), NONE);
         due("in none", x.code(7, 0), NONE);
         due("none is in it", x.box(3, 0), 0);
+        due("nor a least", x.box(3, 3), NONE);
         due("open", x.box(3, 1), 0);
         due("those of others stay", x.code(8, 0), 4);
         due("room for two", x.pack(12, 3) + x.pack(6, 3), 3);
@@ -805,6 +806,17 @@ public final class EdgesOfCodesTest {
             }
         }
         x = withCodes(250);
+        due("none in it: no least", x.box(0, 3), NONE);
+        due("none in it: no greatest", x.box(0, 4), NONE);
+        x.pack(0, 0);
+        due("code 0 alone is the least", x.box(0, 3), 0);
+        due("and the greatest", x.box(0, 4), 0);
+        x.pack(199, 1);
+        due("code 199 alone is the least", x.box(1, 3), 199);
+        due("and the greatest", x.box(1, 4), 199);
+        due("broken up", x.breakUp(0, 1), 1);
+        due("no least", x.box(1, 3), NONE);
+        x.breakUp(0, 0);
         packAll(x, 9, 199, 0, 100);
         due("the least, packed in any order", x.box(9, 3), 0);
         due("the greatest", x.box(9, 4), 199);

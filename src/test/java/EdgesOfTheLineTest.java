@@ -142,6 +142,8 @@ public final class EdgesOfTheLineTest {
         for (int box = 0; box < 30; box++) {
             due("an open case", x.box(box, 0) + x.box(box, 1), 0);
             due("on no pallet", x.box(box, 2), NONE);
+            due("no least code", x.box(box, 3), NONE);
+            due("no greatest code", x.box(box, 4), NONE);
         }
         for (int pallet = 0; pallet < 6; pallet++) {
             due("none on the pallet", x.seal(pallet), NO);
@@ -187,6 +189,28 @@ public final class EdgesOfTheLineTest {
         x = busy();
         due("the same number", x.line(3), 3);
         due("none on the line", x.book(6), 0);
+        // Nothing of the work on a unit is left: the first unit takes all ticks of its pace.
+        for (int done = 1; done < 5; done++) {
+            x = new CaseLine();
+            x.set(0, 0, 5);
+            x.supply(9);
+            x.ticks(done);
+            x.line(2);
+            x.set(0, 0, 5);
+            x.supply(9);
+            x.ticks(4);
+            due("four of five are done", x.about(0, 1), 0);
+            x.ticks(1);
+            due("five are", x.about(0, 1), 1);
+        }
+        // Nor of a reject: that of tick 0 is three ticks ago, and was of the line before.
+        x = new CaseLine();
+        x.set(0, 1, 1);
+        x.supply(9);
+        x.ticks(1);
+        x.line(2);
+        x.ticks(4);
+        due("not halted", x.about(0, 0), STARVED);
     }
 
     private static void lineTicksCountsFaultsAreNone() {

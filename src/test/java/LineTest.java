@@ -560,7 +560,7 @@ public final class LineTest {
         x.set(1, 2, 2);
         x.set(2, 1, 3);
         x.supply(12);
-        for (int tick = 0; tick < 60; tick++) {
+        for (int tick = 0; tick < 40; tick++) {
             x.ticks(1);
             for (int m = 0; m < 3; m++) {
                 x.confirm(m);
@@ -570,7 +570,7 @@ public final class LineTest {
         }
         // 12 units: the first rejects its 5th and 10th; of 10 the second samples 5; of 5 the last
         // rejects its 3rd.
-        int[] due = {60, 0, 12, 4, 3, 5, 0, 55};
+        int[] due = {40, 0, 12, 4, 3, 5, 0, 35};
         for (int what = 0; what < 8; what++) {
             due("book " + what, x.book(what), due[what]);
         }
